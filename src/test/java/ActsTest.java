@@ -58,7 +58,6 @@ public final class ActsTest {
         Check.refused(x, "beyond the land", x.build(1, 0, 1, 0, 0), 5);
         Check.due("nothing to undo", x.size(10), 0);
         x.give(1, 0, 799);
-        x.give(1, 0, 0);
         Check.due("gold", x.house(1, 3), 131);
         Check.fine(x, "build", x.build(1, 1, 3, 0, 99), 40);
         Check.due("gold", x.house(1, 3), 91);
@@ -66,9 +65,6 @@ public final class ActsTest {
         for (int what = 0; what < 8; what++) {
             Check.fine(x, "skin " + what, x.skin(1, 1, what), due[what]);
         }
-        YearSkins y = Check.told(LAND);
-        y.give(0, 1, 69);
-        y.give(0, 1, 1);
         YearSkins poor = Check.told(LAND.replace("gold 930", "gold 39"));
         Check.refused(poor, "too little gold", poor.build(1, 1, 0, 0, 0), 6);
         Check.refused(poor, "5 ahead of 6", poor.build(1, 1, 2, 0, 0), 5);
@@ -137,6 +133,8 @@ public final class ActsTest {
         YearSkins y = Check.told(LAND);
         Check.refused(y, "800", y.give(1, 0, 800), 2);
         Check.fine(y, "799", y.give(1, 0, 799));
+        Check.fine(y, "1", y.give(0, 1, 1));
+        Check.due("gold", y.house(0, 3), 998);
     }
 
     private static void seed() {
