@@ -1083,13 +1083,15 @@ public final class YearSkins {
 
         static boolean isFit(Land land, State state, int h) {
             int r = state.counts[h] + 1;
-            if (r > MOST_SKINS) {
+            int coreX = land.coreX[h];
+            int coreY = land.coreY[h];
+            if (r > MOST_SKINS || !land.isOn(coreX - r, coreY - r) || !land.isOn(coreX + r, coreY + r)) {
                 return false;
             }
             for (int place = 0; place < 8 * r; place++) {
-                int x = land.coreX[h] + Ring.eastOf(r, place);
-                int y = land.coreY[h] + Ring.southOf(r, place);
-                if (!land.isOn(x, y) || land.isWet(x, y) || !isLeftTo(land, state, h, x, y)) {
+                int x = coreX + Ring.eastOf(r, place);
+                int y = coreY + Ring.southOf(r, place);
+                if (land.isWet(x, y) || !isLeftTo(land, state, h, x, y)) {
                     return false;
                 }
             }
@@ -1605,7 +1607,8 @@ public final class YearSkins {
                 return false;
             }
             for (int i = 0; i < word.length(); i++) {
-                if (byteAt(start + i) != word.charAt(i)) {
+                int place = start + i;
+                if (place >= tape.length || tape[place] != word.charAt(i)) {
                     return false;
                 }
             }
@@ -1976,7 +1979,9 @@ public final class YearSkins {
         }
 
         private void newName(int sort, int number) {
-            checkName();
+            if (tokens.kind != Tokens.WORD || lineSort() != NONE) {
+                fail(FORM, tokens.start);
+            }
             if (findName() != NONE) {
                 fail(AGAIN, tokens.start);
             }
@@ -1992,7 +1997,9 @@ public final class YearSkins {
 
         /** The number of a NAME of that sort; 0 behind a FAULT, which no one reads. */
         private int name(int sort) {
-            checkName();
+            if (tokens.kind != Tokens.WORD || lineSort() != NONE) {
+                fail(FORM, tokens.start);
+            }
             int found = findName();
             if (found == NONE || sorts[found] != sort) {
                 fail(UNTOLD, tokens.start);
@@ -2002,12 +2009,6 @@ public final class YearSkins {
             }
             tokens.advance();
             return numbers[found];
-        }
-
-        private void checkName() {
-            if (tokens.kind != Tokens.WORD || lineSort() != NONE) {
-                fail(FORM, tokens.start);
-            }
         }
 
         private int findName() {

@@ -69,6 +69,9 @@ public final class ActsTest {
         Check.refused(poor, "too little gold", poor.build(1, 1, 0, 0, 0), 6);
         Check.refused(poor, "5 ahead of 6", poor.build(1, 1, 2, 0, 0), 5);
         Check.fine(poor, "enough", poor.build(1, 0, 0, 0, 0), 8);
+        YearSkins just = Check.told(LAND.replace("gold 930", "gold 40"));
+        Check.fine(just, "just enough", just.build(1, 1, 0, 0, 0), 40);
+        Check.due("gold", just.house(1, 3), 0);
     }
 
     private static void fill() {
@@ -141,6 +144,7 @@ public final class ActsTest {
         YearSkins x = Check.told(LAND);
         Check.refused(x, "-1", x.seed(-1), 2);
         Check.refused(x, "65537", x.seed(65537), 2);
+        Check.fine(x, "0", x.seed(0));
         Check.fine(x, "65536", x.seed(65536));
         Check.due("seed", x.size(9), 65536);
         Check.due("no act", x.size(10), 0);

@@ -152,6 +152,11 @@ public final class FutureTest {
         Check.due("shut in 0", x.in(0, 0, 4), 0);
         // SKIN 4 would have no door on a land 9 wide.
         Check.due("shut in 60", x.in(0, 60, 4), 0);
+        YearSkins just = Check.told(land("1 births 0 fire 0 earns 1", ";house a at 4,4 of g family 1 gold 7"));
+        Check.due("just enough", just.in(0, 1, 0), 1);
+        Check.due("all of it is paid", just.in(0, 1, 2), 0);
+        YearSkins poor = Check.told(land("1 births 0 fire 0 earns 1", ";house a at 4,4 of g family 1 gold 6"));
+        Check.due("one too few", poor.in(0, 1, 0), 0);
     }
 
     private static void meeting() {
@@ -193,6 +198,7 @@ public final class FutureTest {
         Check.refused(x, "i", x.firstAt(0, -1), 1);
         Check.refused(x, "in 31", x.firstAt(31, 0), 2);
         Check.fine(x, "in 30", x.first(30), 2);
+        Check.fine(x, "in 30", x.firstAt(30, 0), 1);
     }
 
     private static void heads() {

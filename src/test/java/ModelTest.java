@@ -17,7 +17,17 @@ public final class ModelTest {
         random = new Random(number * 31 + 7);
         Lands land = new Lands(number);
         m = land.model;
-        x = Check.told(land.text.toString());
+        x = new YearSkins();
+        // What was told ahead leaves nothing behind, nor does a text with a fault.
+        for (int i = random.nextInt(4); i > 0; i--) {
+            String other = new Lands(1000 + random.nextInt(1000)).text.toString();
+            Check.tell(x, i == 2 ? other.substring(0, random.nextInt(other.length())) : other);
+            if (random.nextBoolean()) {
+                x.years(20);
+                x.mark();
+            }
+        }
+        Check.due("land " + number, Check.tell(x, land.text.toString()), m.houses.size());
     }
 
     public static void main(String[] args) {

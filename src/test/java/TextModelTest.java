@@ -51,7 +51,7 @@ public final class TextModelTest {
             return text;
         }
         int at = random.nextInt(tokens.size());
-        switch (random.nextInt(7)) {
+        switch (random.nextInt(10)) {
             case 0:
                 tokens.remove(at);
                 break;
@@ -66,10 +66,29 @@ public final class TextModelTest {
             case 4:
                 tokens.set(at, tokens.get(random.nextInt(tokens.size())));
                 break;
+            case 5:
+                int sign = random.nextInt(text.length());
+                return text.substring(0, sign) + (char) ('a' + random.nextInt(26)) + text.substring(sign + 1);
+            case 6:
+            case 7:
+                int whole = nextWhole(tokens, at);
+                tokens.set(whole, Integer.toString(random.nextInt(13)));
+                break;
             default:
                 return mixLines(text, random);
         }
         return String.join("", tokens);
+    }
+
+    /** Where the next WHOLE stands from there on, round the text; there itself if there is none. */
+    private static int nextWhole(List<String> tokens, int at) {
+        for (int i = 0; i < tokens.size(); i++) {
+            int place = (at + i) % tokens.size();
+            if (tokens.get(place).matches("[0-9]+")) {
+                return place;
+            }
+        }
+        return at;
     }
 
     /** A LINE again, gone, or elsewhere. */

@@ -145,6 +145,7 @@ public final class TextTest {
         Check.fault("", 1, 0);
         Check.fault("   ", 1, 3);
         Check.fault("lands", 1, 0);
+        Check.fault("sand", 1, 0);
         Check.fault(" 5", 1, 1);
         Check.fault("land", 1, 4);
         Check.fault("land  ", 1, 6);
