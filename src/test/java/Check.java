@@ -20,6 +20,10 @@ final class Check {
         due(what, got ? 1 : 0, want ? 1 : 0);
     }
 
+    static void same(String what, String got, String want) {
+        due(what + " tells\n  " + got + "\ndue is\n  " + want + "\n  likeness", got.equals(want), true);
+    }
+
     /** An int call that is refused: NONE, and its TROUBLE. */
     static void refused(YearSkins x, String what, int got, int trouble) {
         due(what, got, YearSkins.NONE);
