@@ -34,6 +34,8 @@ public final class NowBoundsTest {
         rotInWalls();
         filledAndCollapsed();
         stayingOutside();
+        throughByDoors();
+        throughTheThird();
         fewestWalls();
         led();
         sizes();
@@ -505,6 +507,46 @@ public final class NowBoundsTest {
         y.lock(0, 1, 20);
         Check.fine(y, "strong 30 against 8 and 21", y.through(0, 1), 1 + 29);
         Check.fine(y, "no wall", y.breaks(0, 1), 0);
+    }
+
+    /** Walls too strong to be worth it: by doors, the fewer places round, about place 0 too. */
+    private static void throughByDoors() {
+        for (int inner = 0; inner < 4; inner++) {
+            for (int side = 0; side < 4; side++) {
+                for (int place = 0; place < 3; place++) {
+                    YearSkins x = Check.told(land(9, 9, "near", "no") + house("a", 4, 4) + skin("a", "f", inner, 0, 3) + skin("a", "f", side, place, 5));
+                    int one = Math.abs(DOORS_OF_2[side][place] - FRONTS_OF_1[inner]);
+                    int round = Math.min(one, 16 - one);
+                    Check.fine(x, "through to 2", x.through(0, 2), 6);
+                    Check.fine(x, "through to 1", x.through(0, 1), 6 + round + 4);
+                    Check.fine(x, "through to the core", x.through(0, 0), 6 + round + 5);
+                    Check.fine(x, "no wall", x.breaks(0, 0), 0);
+                    // The wall of SKIN 1 on the same side as the outer door, as soon as it is worth it.
+                    x.lock(0, 1, 99);
+                    Check.fine(x, "through the wall", x.through(0, 1), 6 + (place == 1 ? 0 : 1) + 99);
+                    Check.fine(x, "one wall", x.breaks(0, 1), 1);
+                }
+            }
+        }
+    }
+
+    /** From each door of SKIN 3, whose places are 24, to each of SKIN 2. */
+    private static void throughTheThird() {
+        int[][] doorsOf3 = {{1, 2, 3, 4, 5}, {7, 8, 9, 10, 11}, {17, 16, 15, 14, 13}, {23, 22, 21, 20, 19}};
+        int[][] frontsOf2 = {{2, 3, 4}, {8, 9, 10}, {16, 15, 14}, {22, 21, 20}};
+        for (int outer = 0; outer < 20; outer++) {
+            for (int inner = 0; inner < 12; inner++) {
+                int one = Math.abs(doorsOf3[outer / 5][outer % 5] - frontsOf2[inner / 3][inner % 3]);
+                int round = Math.min(one, 24 - one);
+                YearSkins x = Check.told(land(9, 9, "near", "no") + house("a", 4, 4) + skin("a", "f", 0, 0, 0)
+                        + skin("a", "f", inner / 3, inner % 3, 2) + skin("a", "f", outer / 5, outer % 5, 1));
+                Check.fine(x, "round in 3", x.round(0, 3), round);
+                Check.fine(x, "through to 3", x.through(0, 3), 2);
+                Check.fine(x, "through to 2", x.through(0, 2), 2 + round + 3);
+                int next = Math.abs(DOORS_OF_2[inner / 3][inner % 3] - FRONTS_OF_1[0]);
+                Check.fine(x, "through to 1", x.through(0, 1), 2 + round + 3 + Math.min(next, 16 - next) + 1);
+            }
+        }
     }
 
     private static void fewestWalls() {

@@ -35,6 +35,11 @@ public final class TextBoundsTest {
         aheadOfTheLand();
         atTheEnd();
         cuts();
+        eachWordIsDue();
+        eachSignIsDue();
+        signsAndWholes();
+        allNames();
+        fullLandsAgain();
         cores();
         skinsThatDoNotFit();
         leastNumberLeftmostPlace();
@@ -474,6 +479,90 @@ public final class TextBoundsTest {
                 Check.due("fault of the cut at " + n, x.fault() != 0 && x.where() <= n, true);
             }
             Check.due("tape behind the cut at " + n, x.size(12), 0);
+        }
+    }
+
+    private static final String EVERY = "land wide 9 high 7 doors near share no;years 100 births 10 fire 20 earns 3;water 0,0"
+            + ";stone s soft costs 2 warm 3 rots 4 strong 50;house a at 4,3 of s family 5 gold 60;skin a s north 0 lock 7;heir h a 1"
+            + ";wall w;wall v;older w v;coin w 30;smell v 60";
+
+    /** Each WORD of a LINE that is no NAME, left out, or told twice: at the TOKEN that stands there instead. */
+    private static void eachWordIsDue() {
+        Check.told(EVERY);
+        String[] words = {"wide", "high", "doors", "near", "share", "no", "births", "fire", "earns", "soft", "costs", "warm", "rots", "strong",
+            "at", "of", "family", "gold", "north", "lock"};
+        for (String word : words) {
+            int at = EVERY.indexOf(" " + word) + 1;
+            String without = EVERY.substring(0, at) + EVERY.substring(at + word.length()).replaceFirst("^ ", "");
+            Check.fault(without, 1, at);
+            String twice = EVERY.substring(0, at) + word + " " + EVERY.substring(at);
+            // Behind of comes a NAME, and that may be of too.
+            Check.fault(twice, word.equals("of") ? 2 : 1, at + word.length() + 1);
+        }
+        // Without its first WORD a LINE is none.
+        for (String line : LINES) {
+            int at = EVERY.indexOf(line.equals("land") ? "land " : ";" + line + " ") + (line.equals("land") ? 0 : 1);
+            Check.fault(EVERY.substring(0, at) + EVERY.substring(at + line.length() + 1), 1, at);
+        }
+    }
+
+    /** Each ; and , left out, told twice, or one for the other. */
+    private static void eachSignIsDue() {
+        for (int at = 0; at < EVERY.length(); at++) {
+            char sign = EVERY.charAt(at);
+            if (sign == ';' || sign == ',') {
+                String head = EVERY.substring(0, at);
+                String rest = EVERY.substring(at + 1);
+                Check.fault(head + " " + rest, 1, at + 1);
+                Check.fault(head + sign + sign + rest, 1, at + 1);
+                Check.fault(head + (sign == ';' ? ',' : ';') + rest, 1, at);
+                Check.told(head + " " + sign + "  " + rest);
+            }
+        }
+    }
+
+    /** No number stands for a sign, and no sign for a number: 44 and 59 are the bytes of , and ;. */
+    private static void signsAndWholes() {
+        Check.faultAtLast(LAND + ";water 1 44", 1);
+        Check.faultAtLast(LAND + ";water 1 0044", 1);
+        Check.faultAtLast(LAND + " 59", 1);
+        Check.faultAtLast(LAND + " 0059", 1);
+        Check.faultAtLast(WHOLE.replace("gold 60", "gold 59") + " abcdefghi", 1);
+        Check.faultAtLast(WHOLE.replace("gold 60", "gold 59") + " wall", 1);
+        String gold = WHOLE.substring(0, WHOLE.length() - 2);
+        Check.fault(gold + ",", 1, gold.length());
+        Check.fault(gold + ";", 1, gold.length());
+        Check.fault("land wide ,", 1, 10);
+        Check.fault(LAND + ";water ,1", 1, LAND.length() + 7);
+        Check.fault(WHOLE + ";wall ,", 1, WHOLE.length() + 6);
+        Check.fault(WHOLE + ";wall w;coin ;", 1, WHOLE.length() + 13);
+    }
+
+    /** As many NAMES as there can be: 4 STONES, 4 houses, 6 heirs, 6 WALLS; each can be used, none told again. */
+    private static void allNames() {
+        String text = LAND + YEARS + times(4, ";stone s# hard costs 1 warm 0 rots 0 strong 1") + times(4, ";house h# at @,0 of s# family 0 gold 0")
+                + times(6, ";heir i# hd 0") + times(6, ";wall w#");
+        YearSkins x = Check.told(text + times(6, ";coin w# 9"));
+        Check.due("walls", x.size(7), 6);
+        Check.due("soonest", x.soonest(5), 9);
+        Check.due("stone of the last house", x.house(3, 4), 3);
+        Check.due("house of the last heir", x.heir(5, 0), 3);
+        for (String name : new String[] {"sa", "sd", "ha", "hd", "ia", "if", "wa", "we"}) {
+            Check.faultAtLast(text.substring(0, text.lastIndexOf(";wall wf")) + ";wall " + name, 3);
+        }
+        Check.faultAtLast(text + ";wall", 5);
+    }
+
+    /** How many LINES there are is counted anew for each LAND. */
+    private static void fullLandsAgain() {
+        YearSkins x = new YearSkins();
+        String full = LAND + times(10, ";water @,%") + YEARS + STONE + HOUSE + times(6, ";wall #w")
+                + ";older aw bw;older aw cw;older aw dw;older aw ew;older aw fw;older bw cw;older bw dw;older bw ew";
+        for (int i = 0; i < 3; i++) {
+            Check.fine(x, "full", Check.tell(x, full), 1);
+            Check.due("free", x.free(), 63 - 11);
+            Check.refused(x, "one more", Check.tell(x, full + ";older"), 4);
+            Check.due("many", x.fault(), 5);
         }
     }
 
